@@ -722,7 +722,7 @@ public final class SkyFees {
         }
 
         int ownerOf(int cell) {
-            return isCell(cell) ? owner[cell] : -1;
+            return cell >= 0 && cell < CELLS ? owner[cell] : -1;
         }
 
         int cellsOf(int land) {
@@ -1313,7 +1313,7 @@ public final class SkyFees {
         }
 
         private int nameAt(int name) {
-            return within(name, 0, NAMES - 1) ? names[name] : 0;
+            return name >= 0 && name < NAMES ? names[name] : 0;
         }
 
         private static int join(int sign, int left, int right) {
