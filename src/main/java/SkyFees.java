@@ -1527,7 +1527,7 @@ public final class SkyFees {
     private static final class Routes {
         /** A cost times this and the steps make one number to compare; no way has so many steps. */
         private static final long STEPS = 128;
-        private static final long NO_WAY = Long.MAX_VALUE;
+        private static final long NO_WAY = 1000000000000L;
 
         final int[] way = new int[CELLS];
         int steps;

@@ -12,6 +12,7 @@ public final class AirlineTest {
         pay();
         end();
         endWithTies();
+        endWithMoreOver();
         due.end();
     }
 
@@ -88,7 +89,7 @@ public final class AirlineTest {
         due.is("11: ahead of the law", x.planeIs(2, 3), 20);
         x.go(10);
         due.is("11: by the law", x.planeIs(2, 3), 999);
-        x.go(90);
+        x.go(91);
         due.is("11: not above 9999", x.planeIs(2, 3), 9999);
         Due.law(x, 2, 0, "0-5");
         due.is("11: not below 0", x.planeIs(2, 3), 0);
@@ -198,6 +199,32 @@ public final class AirlineTest {
         x.earn(0, 4);
         // 12 * 30 / 40 = 9, 12 * 5 / 40 = 1 and 20 over
         parted(x, 28, 21, 3, 4);
+    }
+
+    /** Three lands are owed 15 each: 17 of coin leave 2 over, 16 leave 1. */
+    private static void endWithMoreOver() {
+        for (int coin = 15; coin <= 18; coin++) {
+            SkyFees x = new SkyFees();
+            for (int c = 0; c < 6; c++) {
+                x.cell(c, c / 2 * 3);
+            }
+            x.airline(5);
+            x.airline(coin);
+            x.plane(0, 1, 50);
+            x.bill(Due.file(x, 0, 0, 1, 2, 3));
+            x.bill(Due.file(x, 0, 4, 5, 4));
+            x.pay(1, 6, 5);
+            x.earn(1, 5);
+            due.is("14: owed 0", x.owes(1, 0), 15);
+            due.is("14: owed 3", x.owes(1, 3), 15);
+            due.is("14: owed 6", x.owes(1, 6), 15);
+            due.is("16: lost by " + coin, x.end(1), 45 - coin);
+            due.is("16: lost 0 by " + coin, x.landIs(0, 7), coin < 16 ? 10 : 9);
+            due.is("16: lost 3 by " + coin, x.landIs(3, 7), coin < 17 ? 10 : 9);
+            due.is("16: lost 6 by " + coin, x.landIs(6, 7), coin < 18 ? 10 : 9);
+            due.is("16: no coin left of " + coin, x.coin(1), 0);
+            due.is("16: the other airline has its own", x.coin(0), 5);
+        }
     }
 
     /** What is lost by the end, of lands 1, 2, 3; all is put back then. */

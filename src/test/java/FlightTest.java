@@ -11,6 +11,7 @@ public final class FlightTest {
         row();
         miles();
         bill();
+        billOfLandZero();
         billState();
         doubled();
         right();
@@ -93,13 +94,14 @@ public final class FlightTest {
         SkyFees x = Due.twoLands(0);
         Due.file(x, 0, 0, 1);
         Due.file(x, 0, 0, 1);
-        for (int i = 0; i < 40; i++) {
+        for (int i = 0; i < 39; i++) {
             due.is("22: row " + i, x.fly(i % 2, 0), i / 2 + 1);
         }
+        due.is("22: the fortieth", Due.fly(x, 1, 5, 6), 20);
         due.is("22: one more", x.fly(0, 0), Due.FULL);
         due.is("22: KIND ahead of FULL", Due.fly(x, 0, 0), Due.KIND);
         due.is("22: told when full", x.told(6), 40);
-        due.is("22: the last is known", x.row(1, 0, 1), 1);
+        due.is("22: the last is known", x.row(1, 0, 1), 6);
     }
 
     private static void flightIs() {
@@ -213,6 +215,38 @@ public final class FlightTest {
         due.is("26: told", x.told(5), 3);
     }
 
+    /** Land 0, and day 0, are like all others. */
+    private static void billOfLandZero() {
+        SkyFees x = new SkyFees();
+        x.cell(0, 0);
+        x.cell(1, 0);
+        x.airline(0);
+        x.plane(0, 0, 50);
+        x.rate(0, 400);
+        x.land(0, 100, 50);
+        Due.law(x, 1, 0, "l=0");
+        int flight = Due.file(x, 0, 8, 0, 1, 2);
+        int same = Due.file(x, 0, 8, 0, 1, 2);
+        due.is("26: land 0 wants what was flown", x.bill(flight), Due.STATE);
+        due.is("20: m with land 0", x.says(Due.law(x, 3, 0, "m"), 0, flight, 0), 20);
+        Due.fly(x, flight, 0, 1);
+        Due.fly(x, same, 0, 1);
+        due.is("26: 10 miles", x.bill(flight), 40);
+        due.is("23: billed on day 0", x.flightIs(flight, 4), 1);
+        due.is("23: the day of that", x.flightIs(flight, 5), 0);
+        due.is("23: all fees", x.flightIs(flight, 7), 40);
+        due.is("26: doubled by one billed on day 0", x.bill(same), 0);
+        due.is("14: owed to land 0", x.owes(0, 0), 40);
+        due.is("14: all", x.owes(0, -1), 40);
+        due.is("6: income of land 0", x.landIs(0, 3), 40);
+        x.go(100);
+        due.is("30: a twentieth for land 0", x.owes(0, 0), 42);
+        due.is("30: rest of land 0", x.landIs(0, 4), 60);
+        due.is("30: rate of land 0", x.landIs(0, 2), 359);
+        due.is("16: lost of land 0", x.end(0), 42);
+        due.is("6: lost of land 0", x.landIs(0, 7), 42);
+    }
+
     private static void billState() {
         SkyFees x = Due.twoLands(0);
         Due.law(x, 1, 5, "l=2");
@@ -245,6 +279,7 @@ public final class FlightTest {
         int otherPlane = Due.file(x, 1, 2, 3);
         int otherRow = Due.file(x, 0, 2, 3, 4);
         int back = Due.file(x, 0, 3, 2);
+        int otherFirst = Due.file(x, 0, 4, 3);
         x.go(1);
         int otherDay = Due.file(x, 0, 2, 3);
         due.is("26: the later one first", x.bill(same), 10);
@@ -256,10 +291,11 @@ public final class FlightTest {
         due.is("26: another plane", x.bill(otherPlane), 10);
         due.is("26: another row", x.bill(otherRow), 20);
         due.is("26: the way back", x.bill(back), 10);
+        due.is("26: another first cell", x.bill(otherFirst), 10);
         due.is("26: another day", x.bill(otherDay), 10);
         due.is("28: fee of a doubled one", x.fee(first, 1), 0);
         due.is("27: a doubled one stays 0", x.right(first), 0);
-        due.is("29: without doubled ones", x.beside(1, false), 10 + 10 + 15 + 10 + 10);
+        due.is("29: without doubled ones", x.beside(1, false), 10 + 10 + 15 + 10 + 5 + 10);
     }
 
     private static void right() {

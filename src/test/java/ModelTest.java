@@ -129,7 +129,7 @@ public final class ModelTest {
                 case 15: coin(someAirline()); break;
                 case 16: case 17: owes(someAirline(), pick(-1, 7)); break;
                 case 18: case 19: paySome(); break;
-                case 20: if (random.nextInt(8) == 0) { end(someAirline()); } break;
+                case 20: endSome(); break;
                 case 21: case 22: case 23: tellLaw(); break;
                 case 24: force(pick(0, 3), someDay()); break;
                 case 25: case 26:
@@ -167,6 +167,21 @@ public final class ModelTest {
                 most = Math.max(1, Math.min(m.airlines.get(airline).owes[land], 99999));
             }
             pay(airline, land, pick(1, most));
+        }
+
+        /** Often all is put back then, so that many ends are seen in one run. */
+        void endSome() {
+            boolean back = random.nextInt(8) != 0;
+            if (back) {
+                image();
+            }
+            end(someAirline());
+            for (int l = 0; l < 8; l++) {
+                landIs(l, 7);
+            }
+            if (back) {
+                restore();
+            }
         }
 
         void tellLaw() {

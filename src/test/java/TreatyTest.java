@@ -191,6 +191,12 @@ public final class TreatyTest {
         value("5&0", 0);
         value("0-1&1", 1);
         value("1|0&0", 1);
+        value("(0|3)*5", 5);
+        value("(0&3)+5", 5);
+        value("1&3", 1);
+        value("0&1", 0);
+        value("0|1", 1);
+        value("w/0+k", 3);
         value("1&0|1", 1);
         value("3<4", 1);
         value("4<4", 0);
