@@ -53,9 +53,13 @@ public final class FlightTest {
 
     private static void fileFull() {
         SkyFees x = Due.twoLands(0);
-        for (int i = 0; i < 30; i++) {
+        for (int i = 0; i < 29; i++) {
             due.is("21: flight " + i, Due.file(x, 0, 0, 1), i);
         }
+        Due.fly(x, 0, 40, 41);
+        due.is("21: the last, of twelve", Due.file(x, 0, 0, 1, 2, 3, 4, 5, 6, 7, 15, 14, 13, 12), 29);
+        due.is("24: its last cell", x.row(29, -1, 11), 12);
+        due.is("24: what was flown stays", x.row(0, 0, 0), 40);
         due.is("21: one more", x.file(0, 0), Due.FULL);
         due.is("21: KIND ahead of FULL", Due.file(x, 0, 0), Due.KIND);
         due.is("21: told when full", x.told(4), 30);
@@ -97,7 +101,8 @@ public final class FlightTest {
         for (int i = 0; i < 39; i++) {
             due.is("22: row " + i, x.fly(i % 2, 0), i / 2 + 1);
         }
-        due.is("22: the fortieth", Due.fly(x, 1, 5, 6), 20);
+        due.is("22: the fortieth", Due.fly(x, 1, 5, 6, 7, 6, 5, 4, 3, 2, 1, 0, 8, 9), 20);
+        due.is("24: its last number", x.row(1, 0, 11), 9);
         due.is("22: one more", x.fly(0, 0), Due.FULL);
         due.is("22: KIND ahead of FULL", Due.fly(x, 0, 0), Due.KIND);
         due.is("22: told when full", x.told(6), 40);

@@ -10,6 +10,7 @@ public final class VoiceSheetImageTest {
         move();
         image();
         imageOfAll();
+        shorterAfterImage();
         told();
         found();
         due.end();
@@ -291,6 +292,29 @@ public final class VoiceSheetImageTest {
         x.feed('1', 1);
         due.is("40: the tape is back", x.law(3, 0), 3);
         due.is("40: and reads w+1", x.says(3, 0, -1, -1), 51);
+    }
+
+    /** What comes after an image is put back stands in the place of longer things, and keeps nothing of them. */
+    private static void shorterAfterImage() {
+        SkyFees x = Due.twoLands(0);
+        x.image();
+        Due.law(x, 0, 0, "1+2*3+4*5+6");
+        Due.file(x, 0, 0, 1, 2, 3, 4);
+        Due.fly(x, 0, 0, 1, 2, 3, 4);
+        x.bill(0);
+        x.restore();
+        due.is("40: a shorter law", Due.law(x, 3, 0, "5"), 0);
+        due.is("40: says what it says", x.says(0, 0, -1, -1), 5);
+        due.is("40: of its own use", x.force(0, 0), Due.NONE);
+        due.is("40: a shorter row", Due.file(x, 0, 0, 1), 0);
+        due.is("40: of two cells", x.row(0, -1, 2), Due.NONE);
+        due.is("40: not flown", x.row(0, 3000, 0), Due.NONE);
+        due.is("40: the same row", Due.file(x, 0, 0, 1), 1);
+        due.is("40: not billed", x.flightIs(0, 4), 0);
+        due.is("40: billed", x.bill(0), 10);
+        due.is("40: doubled", x.bill(1), 0);
+        due.is("40: flown", Due.fly(x, 0, 5, 6), 1);
+        due.is("40: of two numbers", x.row(0, 0, 2), Due.NONE);
     }
 
     private static void told() {
