@@ -10,6 +10,7 @@ public final class FeesEdgeTest {
         moreIsOwed();
         lessIsOwedLess();
         restComesToCoin();
+        restComesToCoinAbove();
         eachLandByItself();
         incomeStays();
         aTwentiethMore();
@@ -155,6 +156,20 @@ public final class FeesEdgeTest {
         x.right(0);
         due.is("T5: the twentieth stays owed", x.owes(0, 1), 1);
         due.is("T5: COIN stays", x.coin(0), 50);
+    }
+
+    /** The document names no cut here, and no finding: COIN may be above what earn() lets it be. */
+    private static void restComesToCoinAbove() {
+        SkyFees x = billed(999999, 20);
+        due.is("T5: COIN is full again", x.earn(0, 20), 999999);
+        Due.fly(x, 0, 40, 41);
+        due.is("T5: all that was paid comes back", x.right(0), -20);
+        due.is("T5: none of it is cut", x.coin(0), 1000019);
+        due.is("T5: earn() is FULL then", x.earn(0, 1), Due.FULL);
+        Due.fly(x, 0, 1, 2, 3);
+        x.right(0);
+        due.is("T5: it can be paid again", x.pay(0, 1, 20), 0);
+        due.is("T5: and is 999999", x.coin(0), 999999);
     }
 
     private static void eachLandByItself() {

@@ -14,6 +14,7 @@ public final class FlightEdgeTest {
         fileState();
         fileKind();
         fileFull();
+        rowsStayAsTheyWereTold();
         flyBeyond();
         flyNone();
         flyKind();
@@ -101,6 +102,21 @@ public final class FlightEdgeTest {
         due.is("21: FULL: one more", x.file(0, 0), Due.FULL);
         full.refused("21: FULL", Due.FULL, y -> y.file(0, 0));
         full.refused("21: KIND ahead of FULL", Due.KIND, y -> y.file(0, 1));
+    }
+
+    private static void rowsStayAsTheyWereTold() {
+        SkyFees x = Due.twoLands(0);
+        Due.write(x, 0, 8, 0, 1, 2);
+        x.file(0, 0);
+        x.fly(0, 0);
+        x.put(0, 1, 8);
+        due.is("21: the numbers of then", x.row(0, -1, 1), 1);
+        due.is("22: the numbers of then", x.row(0, 0, 1), 1);
+        x.sheet(0, 0, 0);
+        due.is("21: also when the SHEET is missing", x.row(0, -1, 2), 2);
+        due.is("22: also when the SHEET is missing", x.row(0, 0, 2), 2);
+        x.shut(1, true);
+        due.is("25: also when a CELL is SHUT", x.miles(0, 1, 0, 0), 20);
     }
 
     private static void flyBeyond() {

@@ -17,6 +17,7 @@ public final class SheetEdgeTest {
         moveKind();
         moveWhatDoesNotStand();
         moveAsTheyAllWere();
+        moveBetweenAllSheets();
         image();
         imageBut();
         allIsAsTheImageHasIt();
@@ -201,6 +202,26 @@ public final class SheetEdgeTest {
         numbersAre("38: down, as they all were", x, 2, 3, 4, 3, 4);
         due.is("38: to where they are", x.move(0, 1, 0, 1, 4), 4);
         numbersAre("38: the same", x, 2, 3, 4, 3, 4);
+    }
+
+    /** Sheet s has the numbers s, s + 1, s + 2, s + 3; two of each come to each. */
+    private static void moveBetweenAllSheets() {
+        for (int s = 0; s < 4; s++) {
+            for (int o = 0; o < 4; o++) {
+                SkyFees x = new SkyFees();
+                for (int k = 0; k < 4; k++) {
+                    Due.write(x, k, 8, k, k + 1, k + 2, k + 3);
+                }
+                due.is("38: from " + s + " to " + o, x.move(s, 2, o, 1, 2), 2);
+                for (int k = 0; k < 4; k++) {
+                    x.block(k, 8 * k);
+                    for (int i = 0; i < 4; i++) {
+                        int want = k == o && (i == 1 || i == 2) ? s + i + 1 : k + i;
+                        due.is("38: number " + i + " of " + k + " by " + s + " to " + o, x.cell(8 * k + i, -1), want);
+                    }
+                }
+            }
+        }
     }
 
     private static void image() {
